@@ -49,20 +49,20 @@ public final class SleepCalls {
     private final Now trial = new Now();
 
     private final Now[] past = new Now[MOST_UNDONE];
-    private int latest = 0;
-    private int undoable = 0;
+    private int latest;
+    private int undoable;
 
     private final Now[] images = new Now[IMAGES];
     private final boolean[] kept = new boolean[IMAGES];
 
     private final int[] countedHour = new int[MOST_COUNTS];
     private final int[] countedMany = new int[MOST_COUNTS];
-    private int counts = 0;
+    private int counts;
 
     private final int[] calledUp = new int[MOST_CALL_UP];
     private final int[][] tiredIn = new int[MOST_CALL_UP + 1][MOST_CITIZENS];
     private final int[] wayCost = new int[MOST_DISTRICTS];
-    private long trace = 0;
+    private long trace;
 
     public SleepCalls() {
         for (int i = 0; i < MOST_UNDONE; i++) {
@@ -71,8 +71,8 @@ public final class SleepCalls {
         for (int i = 0; i < IMAGES; i++) {
             images[i] = new Now();
         }
-        told.restart();
-        told.settle();
+        // The empty text tells the city that there is at first.
+        text.readInto(told);
         present.begin(told);
     }
 
@@ -594,9 +594,9 @@ public final class SleepCalls {
 
     /** What goes on from hour to hour: all that an image keeps. */
     private static final class Now {
-        int day = 0;
-        int hour = 0;
-        int lapses = 0;
+        int day;
+        int hour;
+        int lapses;
         final int[] tired = new int[MOST_CITIZENS];
         final int[] called = new int[MOST_CITIZENS];
         final int[] slept = new int[MOST_CITIZENS];
@@ -639,17 +639,17 @@ public final class SleepCalls {
 
     /** What a text tells, and what follows from it alone. */
     private static final class City {
-        int districts = 1;
-        int quota = 1;
-        boolean quotaTold = false;
+        int districts;
+        int quota;
+        boolean quotaTold;
         final int[] beds = new int[MOST_DISTRICTS];
         final int[] joined = new int[MOST_DISTRICTS];
-        int citizens = 0;
+        int citizens;
         final int[] home = new int[MOST_CITIZENS];
         final int[] tiredAtFirst = new int[MOST_CITIZENS];
         final int[] work = new int[MOST_CITIZENS];
         final int[] deep = new int[MOST_CITIZENS];
-        int noises = 0;
+        int noises;
         final int[] noiseDistrict = new int[MOST_NOISES];
         final int[] noiseHour = new int[MOST_NOISES];
         final int[] noiseLoud = new int[MOST_NOISES];
@@ -668,9 +668,6 @@ public final class SleepCalls {
                 beds[d] = MOST_BEDS;
                 joined[d] = 0;
                 livingIn[d] = 0;
-            }
-            for (int c = 0; c < MOST_CITIZENS; c++) {
-                tiredAtFirst[c] = 0;
             }
         }
 
@@ -818,14 +815,15 @@ public final class SleepCalls {
 
     /** THE TEXT, and its reading: one token is at hand at a time, and a fault is always where that one begins. */
     private static final class Reader {
-        private static final int NUMBER = 256, END = 257, UNKNOWN = 258;
+        /** Above all letters: a token that is no number is the letter itself, which nothing asks for if it is none. */
+        private static final int NUMBER = 256, WRONG_NUMBER = 257, END = 258;
 
         final char[] letters = new char[MOST_LETTERS];
-        int length = 0;
-        private int place = 0;
-        private int token = END;
-        private int tokenPlace = 0;
-        private int value = 0;
+        int length;
+        private int place;
+        private int token;
+        private int tokenPlace;
+        private int value;
         private final int[] numbers = new int[MOST_NUMBERS];
 
         /** How many items, or what city() answers to a fault. */
@@ -921,7 +919,7 @@ public final class SleepCalls {
                 return;
             }
             place++;
-            token = isSign(letter) ? letter : UNKNOWN;
+            token = letter;
         }
 
         private void readNumber() {
@@ -932,24 +930,11 @@ public final class SleepCalls {
                 place++;
             }
             boolean zeroAhead = letters[tokenPlace] == '0' && place - tokenPlace > 1;
-            token = zeroAhead || value > MOST_NUMBER ? UNKNOWN : NUMBER;
+            token = zeroAhead || value > MOST_NUMBER ? WRONG_NUMBER : NUMBER;
         }
 
         private static boolean isDigit(char letter) {
             return letter >= '0' && letter <= '9';
-        }
-
-        private static boolean isSign(char letter) {
-            switch (letter) {
-                case 'd':
-                case 'q':
-                case 'e':
-                case 'b':
-                case 'c':
-                case 'n':
-                case ';': return true;
-                default: return false;
-            }
         }
     }
 }
