@@ -444,7 +444,10 @@ public final class PromiseTests {
         lapseFar();
     }
 
-    /** One bed for three; the hours that go by then tell that the first one to lapse is the 82nd indeed. */
+    /**
+     * This city was found by a search with the program, not worked out by hand; the hours that go by then tell that
+     * the first one to lapse is the 82nd indeed.
+     */
     private static void lapseFar() {
         SleepCalls x = Checks.told("q1;b0 1;c0 19 0 9;c0 9 0 8;c0 8 0 9;");
         x.calls(0, 249);
