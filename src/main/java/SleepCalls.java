@@ -271,14 +271,15 @@ public final class SleepCalls {
         if (n < 1 || n > MOST_CALL_UP || i < -1) {
             return BAD;
         }
+        // Ahead of the search: n hours have no hour n, whether there is a call-up for them or not.
+        if (i >= n) {
+            return NOT_SO_MANY;
+        }
         System.arraycopy(present.tired, 0, tiredIn[0], 0, MOST_CITIZENS);
         if (!enoughInEach(n) || !callUpFrom(0, n)) {
             return NONE;
         }
-        if (i == -1) {
-            return n * told.quota;
-        }
-        return i < n ? calledUp[i] : NOT_SO_MANY;
+        return i == -1 ? n * told.quota : calledUp[i];
     }
 
     /** Most of what can't be called up at all is seen here, without a search. */

@@ -284,12 +284,12 @@ final class PlainModel {
 
     int callUp(int n, int i) {
         if (n < 1 || n > 3 || i < -1) return BAD;
+        if (i >= n) return -5;
         fewest = Integer.MAX_VALUE;
         best = null;
         tryRows(now, 0, n, new int[n], 0);
         if (best == null) return NONE;
-        if (i == -1) return fewest;
-        return i < n ? best[i] : -5;
+        return i == -1 ? fewest : best[i];
     }
 
     private void tryRows(Moment from, int h, int n, int[] row, int sum) {

@@ -488,6 +488,23 @@ public final class PromiseTests {
         due("14 nobody is called", Checks.told("q0;c0 5 0 5;").callUp(3, 2), 0);
         due("14 nobody there", new SleepCalls().callUp(1, -1), NONE);
         due("14 no set", new SleepCalls().callUp(1, 0), NONE);
+        callUpBeyondWhereNone();
+    }
+
+    /** An HOUR that the CALL-UP can't have is told ahead of there being no CALL-UP; a wrong n ahead of both. */
+    private static void callUpBeyondWhereNone() {
+        SleepCalls none = new SleepCalls();
+        SleepCalls tiredOnce = Checks.told("q1;c0 1 0 5;");
+        for (int n = 1; n <= 3; n++) {
+            due("14 none for " + n, none.callUp(n, -1), NONE);
+            due("14 no last set of " + n, none.callUp(n, n - 1), NONE);
+            due("14 none, and not so many as " + n, none.callUp(n, n), NOT_SO_MANY);
+            due("14 none, and not so many by far", none.callUp(n, Integer.MAX_VALUE), NOT_SO_MANY);
+        }
+        due("14 one hour only", tiredOnce.callUp(2, 1), NONE);
+        due("14 one hour only, beyond it", tiredOnce.callUp(2, 2), NOT_SO_MANY);
+        due("14 a wrong n is BAD ahead of that", none.callUp(0, 0), BAD);
+        due("14 too many hours are BAD ahead of that", none.callUp(4, 4), BAD);
     }
 
     private static void callUpOrder() {
