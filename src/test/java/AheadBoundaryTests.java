@@ -255,6 +255,9 @@ public final class AheadBoundaryTests extends Boundary {
         due("two BEDS for two", Life.told("q2;b0 2;c0 9 0 5;c0 9 0 5;").callUp(1, 0), 3);
         due("a BED in each", Life.told("d2;q2;b0 1;b1 1;c0 9 0 5;c0 9 0 5;c1 9 0 5;").callUp(1, 0), 5);
         due("no BED", Life.told("q1;b0 0;c0 9 0 5;").callUp(1, 0), NONE);
+        String four = "b0 1;b1 1;b2 1;b3 1;c0 9 0 5;c3 9 0 5;c3 9 0 5;c1 9 0 5;c2 9 0 5;c0 9 0 5;";
+        due("a BED in each of four", Life.told("d4;q4;" + four).callUp(1, 0), 1 + 2 + 8 + 16);
+        due("four BEDS for five", Life.told("d4;q5;" + four).callUp(1, 0), NONE);
         due("LOUD as DEEP", Life.told("q1;c0 9 0 5;n0 0 5;").callUp(1, 0), 1);
         due("LOUD by 1 more", Life.told("q1;c0 9 0 5;n0 0 6;").callUp(1, 0), NONE);
         due("LOUD in another HOUR", Life.told("q1;c0 9 0 5;n0 1 6;").callUp(1, 0), 1);

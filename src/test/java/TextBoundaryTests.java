@@ -395,7 +395,7 @@ public final class TextBoundaryTests extends Boundary {
         }
     }
 
-    /** The same behind d, where a NUMBER is due, behind d2, where a ; is, and behind d2; where an ITEM is. */
+    /** The same behind d and behind b0, where a NUMBER is due, behind d2, where a ; is, and behind d2; where an ITEM is. */
     private static void lettersInPlaceOfOthers() {
         for (int letter = 0; letter <= 255; letter++) {
             String sign = String.valueOf((char) letter);
@@ -410,6 +410,10 @@ public final class TextBoundaryTests extends Boundary {
             Life item = new Life();
             item.write("d2;" + sign);
             due("letter " + letter + " for an ITEM", item.city(), letter == 32 ? 1 : begins ? -14 : -13);
+            // Behind a 0 that may stand, so that no letter is taken for that one once more.
+            Life second = new Life();
+            second.write("b0 " + sign + ";");
+            due("letter " + letter + " for BEDS", second.city(), letter >= '0' && letter <= '6' ? 1 : letter == 32 ? -14 : -13);
         }
     }
 
