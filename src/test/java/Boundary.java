@@ -9,7 +9,7 @@ abstract class Boundary {
     }
 
     static void alike(String call, String got, String want) {
-        CHECKS.due(call + ": " + got + " for " + want, got.equals(want) ? 1 : 0, 1);
+        CHECKS.isSo(call + ": " + got + " for " + want, got.equals(want));
     }
 
     /** A text that is read: how many items. */

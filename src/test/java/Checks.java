@@ -1,3 +1,8 @@
+import java.io.IOException;
+import java.nio.charset.StandardCharsets;
+import java.nio.file.Files;
+import java.nio.file.Path;
+
 /** What the tests of the project share: telling a text, and counting the answers that are not as due. */
 final class Checks {
     private int asked = 0;
@@ -13,6 +18,10 @@ final class Checks {
         }
     }
 
+    void isSo(String what, boolean so) {
+        due(what, so ? 1 : 0, 1);
+    }
+
     boolean isRight() {
         return wrong == 0;
     }
@@ -22,6 +31,10 @@ final class Checks {
         if (wrong != 0 || asked == 0) {
             System.exit(1);
         }
+    }
+
+    static String read(String path) throws IOException {
+        return new String(Files.readAllBytes(Path.of(path)), StandardCharsets.UTF_8);
     }
 
     static void type(SleepCalls x, String text) {
